@@ -1,9 +1,9 @@
 /**
  * Runs of calls by chance (of a written seed, so the same each time) on BarMeasure and on PlainBar:
- * every answer must be the same, and so must all that can be asked between them.
+ * every answer must be the same. No run goes beyond 512 calls, as nothing is promised behind them.
  */
 public final class RandomRunsTest {
-    private static final int RUNS = 1500, CALLS = 300;
+    private static final int RUNS = 4000, BUSY_CALLS = 400, ALL_CALLS = 512;
     private static final int[] WILD = {Integer.MIN_VALUE, -1000000, -2, -1, 1000000, Integer.MAX_VALUE};
 
     private final BarMeasure x = new BarMeasure();
@@ -11,6 +11,7 @@ public final class RandomRunsTest {
     private final StringBuilder told = new StringBuilder();
     private final int run;
     private long seed;
+    private int calls = 0;
     private boolean differs = false;
 
     private RandomRunsTest(int run) {
@@ -34,19 +35,23 @@ public final class RandomRunsTest {
         for (int i = 0; i < 2 * busyKinds; i++) {
             call(2);
         }
-        int focus = chance(4);
-        for (int i = 0; i < CALLS && !differs; i++) {
+        int focus = chance(5);
+        while (calls < BUSY_CALLS && !differs) {
             call(pick(focus));
-            if (i % 60 == 59) {
-                compareAll();
-            }
+            askSomething();
+        }
+        while (calls < ALL_CALLS && !differs) {
+            askSomething();
         }
     }
 
-    /** Some runs are mostly of acts and NIGHTS, some of plans, some of money, some of all. */
+    /** Some runs are mostly of acts and NIGHTS, some of acts in long NIGHTS, some of plans, some of money, some of all. */
     private int pick(int focus) {
-        if (chance(4) == 0 || focus == 3) {
+        if (chance(focus == 4 ? 20 : 4) == 0 || focus == 3) {
             return chance(33);
+        }
+        if (focus == 4) {
+            return 4 + chance(chance(3) == 0 ? 8 : 6);
         }
         if (focus == 0) {
             return chance(30) == 0 ? 12 : 4 + chance(15);
@@ -86,6 +91,7 @@ public final class RandomRunsTest {
     }
 
     private void same(String name, long got, long due, int... args) {
+        calls++;
         told.append(name).append(java.util.Arrays.toString(args)).append(" = ").append(due).append('\n');
         if (got != due && !differs) {
             differs = true;
@@ -251,33 +257,33 @@ public final class RandomRunsTest {
         }
     }
 
-    private void compareAll() {
-        for (int what = 0; what <= 6; what++) {
-            same("count", x.count(what), y.count(what), what);
-        }
-        for (int bar = 0; bar <= 1; bar++) {
-            same("takings", x.takings(bar), y.takings(bar), bar);
-        }
-        for (int kind = 0; kind < y.count(0); kind++) {
-            compareKind(kind);
-        }
-    }
-
-    private void compareKind(int kind) {
-        for (int bar = 0; bar <= 2; bar++) {
-            same("has", x.has(bar, kind), y.has(bar, kind), bar, kind);
-        }
-        for (int what = 0; what <= 4; what++) {
-            same("all", x.all(kind, what), y.all(kind, what), kind, what);
-        }
-        for (int keeper = 0; keeper <= 2; keeper++) {
-            same("over", x.over(keeper, kind, 0), y.over(keeper, kind, 0), keeper, kind, 0);
-            same("over", x.over(keeper, kind, 1), y.over(keeper, kind, 1), keeper, kind, 1);
-            same("leans", x.leans(keeper, kind), y.leans(keeper, kind), keeper, kind);
-        }
-        for (int i = 0; i < (y.count(2) + 1) * 10; i++) {
-            int night = i / 10, bar = i / 5 % 2, what = i % 5;
-            same("gap", x.gap(night, bar, kind, what), y.gap(night, bar, kind, what), night, bar, kind, what);
+    /** A question that has an answer, of the books more often than of anything else. */
+    private void askSomething() {
+        int kinds = y.count(0);
+        int bar = chance(2), kind = kinds == 0 ? 0 : chance(kinds), keeper = chance(3);
+        int a = chance(5), b = chance(2), night = Math.max(0, y.count(2) - chance(chance(2) == 0 ? 3 : 20));
+        switch (chance(8)) {
+            case 0:
+                same("count", x.count(a), y.count(a), a);
+                break;
+            case 1:
+                same("takings", x.takings(bar), y.takings(bar), bar);
+                break;
+            case 2:
+                same("has", x.has(a % 3, kind), y.has(a % 3, kind), a % 3, kind);
+                break;
+            case 3:
+                same("all", x.all(kind, a), y.all(kind, a), kind, a);
+                break;
+            case 4:
+                same("over", x.over(keeper, kind, b), y.over(keeper, kind, b), keeper, kind, b);
+                break;
+            case 5:
+                same("leans", x.leans(keeper, kind), y.leans(keeper, kind), keeper, kind);
+                break;
+            default:
+                same("gap", x.gap(night, bar, kind, a), y.gap(night, bar, kind, a), night, bar, kind, a);
+                break;
         }
     }
 }
