@@ -300,6 +300,7 @@ public final class EdgesActsTest {
         Life weighed = PLAIN.then("a weighing", x -> x.weigh(0, 0, 9, 990));
         Edge.refused("Promise 11, \"NO\": the same again", weighed, Edge.FAR_NO, x -> x.weigh(0, 0, 9, 990));
         Edge.refused("Promise 11, \"NO\": another number", weighed, Edge.FAR_NO, x -> x.weigh(0, 0, 0, 0));
+        Edge.refused("Promise 11, \"NO\": with another SCALE and POUR since", Life.EVENING, Edge.FAR_NO, x -> x.weigh(0, 0, 5, 480));
         Edge.refused("Promise 11, \"NO\": with 40 acts kept", Life.FULL, Edge.FAR_NO, x -> x.weigh(1, 3, 1, 1));
         Due.is("Promise 11, at the other BAR it was not", weighed.lived().weigh(1, 0, 1, 0), -1000);
         Due.is("Promise 11, another KIND was not", weighed.lived().weigh(0, 1, 1, 0), -1000);
@@ -518,6 +519,11 @@ public final class EdgesActsTest {
         Due.is("Promise 13, \"till another one is told\"", x.gap(3, 0, 0, 4), 1);
         Due.is("Promise 13, the NIGHTS ahead stay", x.gap(2, 0, 0, 4), 2);
         Due.is("Promise 13, those ahead of the first word too", x.gap(0, 0, 0, 4), 0);
+        x.keeper(1, 1);
+        x.night();
+        Due.is("Promise 13, \"it stays\": BAR 0", x.gap(4, 0, 0, 4), 1);
+        Due.is("Promise 13, \"it stays\": BAR 1", x.gap(4, 1, 0, 4), 1);
+        Due.is("Promise 13, BAR 1 ahead of its word", x.gap(2, 1, 0, 4), 0);
     }
 
     private static void promise13_one_told_counts_for_all_of_that_NIGHT() {

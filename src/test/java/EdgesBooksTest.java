@@ -396,6 +396,19 @@ public final class EdgesBooksTest {
         Due.is("Promise 19, UNDONE", x.leans(0, 0), 1);
     }
 
+    private static void promise19_TOLD_as_it_was_when_WEIGHED() {
+        BarMeasure x = PLAIN.lived();
+        weighWith(x, 0, 1, 4);
+        weighWith(x, 1, 1, 3);
+        x.rule(0, 50);
+        Due.is("Promise 19, TOLD stays TOLD by a greater SCALE", x.leans(0, 0), 1);
+        x.rule(0, 0);
+        x.rule(1, 0);
+        Due.is("Promise 19, not TOLD stays so by a SPAN of 0", x.leans(0, 0), 1);
+        x.night();
+        Due.is("Promise 19, and behind the NIGHT", x.leans(0, 0), 1);
+    }
+
     private static void promise19_all_40_of_20_NIGHTS() {
         BarMeasure x = PLAIN.lived();
         for (int night = 0; night < 20; night++) {

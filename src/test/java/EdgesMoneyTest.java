@@ -422,6 +422,15 @@ public final class EdgesMoneyTest {
         }
     }
 
+    private static void promise33_least_price_ahead_of_fewest_bottles() {
+        BarMeasure x = DEALS.lived();
+        Due.is("Promise 33, 5 for 5000 ahead of 6 for 5000", x.buy(5, 1), 5);
+        x.deal(8, 3999);
+        Due.is("Promise 33, 8 for 3999 ahead of 4 for 4000", x.buy(4, 1), 8);
+        Due.is("Promise 33, 8 for 3999: the price", x.buy(4, 0), 3999);
+        Due.is("Promise 33, 3 for 3000 ahead of 8 for 3999", x.buy(3, 1), 3);
+    }
+
     private static void promise33_the_most_bottles_beyond_n() {
         BarMeasure x = new BarMeasure();
         x.deal(13, 7);

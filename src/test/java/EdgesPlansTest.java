@@ -188,6 +188,10 @@ public final class EdgesPlansTest {
         Due.is("Promise 24, \"(with any PARTS)\": 0 again", x.makes(15), 3);
         x.part(0, 0, 0);
         Due.is("Promise 24, a KIND with 0 PARTS is not needed", x.makes(2), 1);
+        x.part(1, 2, 0);
+        Due.is("Promise 24, nor is KIND 2 of RECIPE 1", x.makes(2), 2);
+        x.part(2, 3, 0);
+        Due.is("Promise 24, RECIPE 2 has no PARTS any more", x.makes(15), 2);
     }
 
     // ---- Promise 25: "FEWEST for m (1 to 12): as bits. NONE; BAD."
@@ -213,6 +217,18 @@ public final class EdgesPlansTest {
     private static void promise25_several_the_first_BAD_though_there_is_NONE() {
         Edge.refused("Promise 25, BAD, not NONE: 0", Life.NEW, Edge.BAD, x -> x.fewest(0));
         Edge.refused("Promise 25, BAD, not NONE: 13", Life.NEW, Edge.BAD, x -> x.fewest(13));
+    }
+
+    private static void promise25_m_RECIPES_and_more() {
+        BarMeasure x = new BarMeasure();
+        x.kind(0, 500, 100);
+        for (int i = 1; i <= 12; i++) {
+            x.recipe(100);
+            x.part(i - 1, 0, 1);
+        }
+        for (int m = 1; m <= 12; m++) {
+            Due.is("Promise 25, 12 can be MADE where " + m + " are asked", x.fewest(m), 1);
+        }
     }
 
     private static void promise25_fewest_KINDS_ahead_of_least_bits() {

@@ -7,7 +7,10 @@ final class Life {
     /** Nothing told yet. */
     static final Life NEW = new Life("a new object", x -> { });
 
-    /** NIGHT 2 of three KINDS, four RECIPES, with a little of everything; RECIPES 0 and 1 are SOLD in it, 2 and 3 not. */
+    /**
+     * NIGHT 2 of three KINDS, four RECIPES, with a little of everything; RECIPES 0 and 1 are SOLD in it, 2 and 3 not.
+     * SCALE and POUR are not as they were when it was WEIGHED, so that a SPAN reckoned anew shows.
+     */
     static final Life EVENING = new Life("an evening", Life::leadToAnEvening);
 
     /** Every table is full: the last NIGHT, 40 acts kept of 47, THE STORE at 1000 bottles of KIND 0. */
@@ -80,6 +83,8 @@ final class Life {
         x.lose(0, 0, 1, 45);
         x.weigh(0, 0, 5, 480);
         x.weigh(1, 1, 8, 12);
+        x.rule(0, 5);
+        x.rule(1, 4);
     }
 
     private static void tellOfMoney(BarMeasure x) {
